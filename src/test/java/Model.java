@@ -1,6 +1,8 @@
 import java.util.ArrayList;
 import java.util.Arrays;
+import java.util.HashMap;
 import java.util.List;
+import java.util.Map;
 import java.util.NoSuchElementException;
 
 /**
@@ -40,8 +42,11 @@ public final class Model {
     private final List<int[]> rules = new ArrayList<>();
     private long takings;
     private Plan best;
+    /** The best plans by the bidder left out, until a call may change them. */
+    private final Map<Integer, Plan> plans = new HashMap<>();
 
     public int offer(int fibre, char grade, int reserve) {
+        plans.clear();
         need(fibreOk(fibre) && gradeOk(grade) && reserve >= 0 && reserve <= 999, new IllegalArgumentException());
         need(openLots() < 8 && lots.size() < 40, new IllegalStateException());
         Lot lot = new Lot();
@@ -53,6 +58,7 @@ public final class Model {
     }
 
     public int withdraw(int lot) {
+        plans.clear();
         Lot known = lot(lot);
         need(known.state == 'o', new IllegalStateException());
         known.state = 'w';
@@ -60,6 +66,7 @@ public final class Model {
     }
 
     public int allow(int fibre, int other, int steps) {
+        plans.clear();
         need(fibreOk(fibre) && fibreOk(other) && steps >= 0 && steps <= 4, new IllegalArgumentException());
         need(rules.size() < 6, new IllegalStateException());
         rules.add(new int[] {fibre, other, steps});
@@ -67,12 +74,14 @@ public final class Model {
     }
 
     public int forbid() {
+        plans.clear();
         need(!rules.isEmpty(), new IllegalStateException());
         rules.remove(rules.size() - 1);
         return rules.size();
     }
 
     public int bid(int bidder, int price) {
+        plans.clear();
         need(bidder >= 0 && bidder <= 7 && price >= 0 && price <= 9999, new IllegalArgumentException());
         need(openBids() < 8 && bids.size() < 40, new IllegalStateException());
         Bid bid = new Bid();
@@ -84,6 +93,7 @@ public final class Model {
     }
 
     public int ask(int bid, int fibre, char grade) {
+        plans.clear();
         Bid known = known(bid);
         need(fibreOk(fibre) && gradeOk(grade), new IllegalArgumentException());
         need(known.state == 'o' && known.wishes.size() < 3, new IllegalStateException());
@@ -92,6 +102,7 @@ public final class Model {
     }
 
     public int raise(int bid, int price) {
+        plans.clear();
         Bid known = open(bid);
         need(price > known.price && price <= 9999, new IllegalArgumentException());
         int before = known.price;
@@ -100,6 +111,7 @@ public final class Model {
     }
 
     public int cancel(int bid) {
+        plans.clear();
         Bid known = open(bid);
         known.state = 'c';
         return known.price;
@@ -118,6 +130,7 @@ public final class Model {
                 settleLoser(bid, plan);
             }
         }
+        plans.clear();
         int next = 0;
         for (int i = 0; i < payments.length; i++) {
             Bid bid = plan.set.get(i);
@@ -347,7 +360,7 @@ public final class Model {
 
     private Plan bestPlan(int withoutBidder) {
         List<Bid> open = openList().stream().filter(bid -> bid.bidder != withoutBidder).toList();
-        return bestOf(open, 0);
+        return plans.computeIfAbsent(withoutBidder, key -> bestOf(open, 0));
     }
 
     private Plan alone(Bid bid) {

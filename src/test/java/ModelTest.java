@@ -1,22 +1,15 @@
-import java.lang.reflect.InvocationTargetException;
-import java.lang.reflect.Method;
-import java.util.Arrays;
-import java.util.Comparator;
 import java.util.Random;
 
 /** Runs of calls, chosen by fixed seeds, on the program and on the model: both must answer the same. */
 public final class ModelTest {
-    private static final int CALLS = 512;
     private static final int RUNS = 1200;
-    private static final Method[] METHODS = sortedMethods();
 
     private final Random random;
     private final boolean ties;
-    private final SkeinMarket market = new SkeinMarket();
-    private final Model model = new Model();
-    private final StringBuilder told = new StringBuilder();
+    private final Twin twin;
 
-    private ModelTest(int seed) {
+    private ModelTest(Check check, int seed) {
+        twin = new Twin(check, "seed " + seed);
         random = new Random(seed);
         ties = seed % 3 != 0;
     }
@@ -24,55 +17,35 @@ public final class ModelTest {
     public static void main(String[] args) {
         Check check = new Check();
         for (int seed = 0; seed < RUNS; seed++) {
-            new ModelTest(seed).run(check, "seed " + seed);
+            new ModelTest(check, seed).run();
         }
         check.end();
     }
 
-    private static Method[] sortedMethods() {
-        Method[] methods = Arrays.stream(SkeinMarket.class.getDeclaredMethods())
-                .filter(method -> (method.getModifiers() & java.lang.reflect.Modifier.PUBLIC) != 0)
-                .toArray(Method[]::new);
-        Arrays.sort(methods, Comparator.comparing(Method::getName));
-        return methods;
-    }
-
-    private void run(Check check, String name) {
-        for (int call = 0; call < CALLS; call++) {
-            Method method = pick(call);
-            Object[] values = arguments(method.getName());
-            Object got = outcome(market, method.getName(), method.getParameterTypes(), values);
-            Object due = outcome(model, method.getName(), method.getParameterTypes(), values);
-            told.append(method.getName()).append(Arrays.toString(values)).append(" = ").append(due).append('\n');
-            check.same(name + ", call " + call + ": " + method.getName() + Arrays.toString(values), got, due);
-            if (!due.equals(got)) {
-                System.out.println(told);
-                return;
-            }
+    private void run() {
+        for (int call = 0; call < Twin.CALLS; call++) {
+            String method = pick(call);
+            twin.call(method, arguments(method));
         }
     }
 
     /** Changes come in rounds: offers, bids and their items, questions, and now and then a closing. */
-    private Method pick(int call) {
+    private String pick(int call) {
         int round = call % 64;
         if (round < 8) {
-            return named(random.nextInt(12) == 0 ? "withdraw" : "offer");
+            return random.nextInt(12) == 0 ? "withdraw" : "offer";
         }
         if (round < 11) {
-            return named(random.nextInt(4) == 0 ? "forbid" : "allow");
+            return random.nextInt(4) == 0 ? "forbid" : "allow";
         }
         if (round < 34) {
-            return named(new String[] {"bid", "ask", "ask", "raise"}[random.nextInt(40) == 0 ? 3 : random.nextInt(3)]);
+            return new String[] {"bid", "ask", "ask", "raise"}[random.nextInt(40) == 0 ? 3 : random.nextInt(3)];
         }
         if (round == 48) {
-            return named("close");
+            return "close";
         }
-        Method any = METHODS[random.nextInt(METHODS.length)];
-        return any.getName().equals("close") && random.nextInt(4) != 0 ? named("lotFor") : any;
-    }
-
-    private static Method named(String name) {
-        return Arrays.stream(METHODS).filter(method -> method.getName().equals(name)).findFirst().orElseThrow();
+        String any = Twin.METHODS[random.nextInt(Twin.METHODS.length)].getName();
+        return any.equals("close") && random.nextInt(4) != 0 ? "lotFor" : any;
     }
 
     private Object[] arguments(String name) {
@@ -98,7 +71,7 @@ public final class ModelTest {
             case "surplusWithout":
                 return new Object[] {odd(0, 7)};
             default:
-                return named(name).getParameterCount() == 0 ? new Object[0] : new Object[] {bid()};
+                return Twin.named(name).getParameterCount() == 0 ? new Object[0] : new Object[] {bid()};
         }
     }
 
@@ -122,25 +95,15 @@ public final class ModelTest {
     }
 
     private int lot() {
-        return odd(0, Math.max(0, model.lots() - 1));
+        return odd(0, Math.max(0, twin.model.lots() - 1));
     }
 
     private int bid() {
-        return random.nextInt(3) == 0 ? odd(0, Math.max(0, model.bids() - 1)) : openBid();
+        return random.nextInt(3) == 0 ? odd(0, Math.max(0, twin.model.bids() - 1)) : openBid();
     }
 
     private int openBid() {
-        int last = Math.max(0, model.bids() - 1);
+        int last = Math.max(0, twin.model.bids() - 1);
         return random.nextInt(4) == 0 ? last : odd(Math.max(0, last - 7), last);
-    }
-
-    private static Object outcome(Object on, String name, Class<?>[] types, Object[] values) {
-        try {
-            return on.getClass().getMethod(name, types).invoke(on, values);
-        } catch (InvocationTargetException thrown) {
-            return "throws." + thrown.getCause().getClass().getName();
-        } catch (ReflectiveOperationException broken) {
-            throw new IllegalStateException(broken);
-        }
     }
 }
