@@ -772,7 +772,7 @@ public final class SkeinMarket {
                     index += itemCounts[place];
                 }
             }
-            if (index < 0 || index >= MAX_OPEN || givenPlaces[index] < 0) {
+            if (index < 0 || index >= queueLength || givenPlaces[index] < 0) {
                 return NONE;
             }
             return lotNumbers[givenPlaces[index]];

@@ -27,8 +27,15 @@ final class Check {
         try {
             return call.answer();
         } catch (RuntimeException thrown) {
-            return "throws." + thrown.getClass().getSimpleName();
+            return told(thrown);
         }
+    }
+
+    /** Where the document wants an exception, the code throws it itself, not the machine and not the library. */
+    static String told(Throwable thrown) {
+        StackTraceElement[] frames = thrown.getStackTrace();
+        boolean byLibrary = frames.length > 0 && frames[0].getClassName().indexOf('.') >= 0;
+        return "throws." + thrown.getClass().getSimpleName() + (byLibrary ? " out of the library" : "");
     }
 
     void end() {

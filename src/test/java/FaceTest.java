@@ -63,17 +63,32 @@ public final class FaceTest {
         for (Field field : market.getDeclaredFields()) {
             check.same("private field " + field.getName(), Modifier.isPrivate(field.getModifiers()), true);
         }
+        for (Class<?> inside : market.getDeclaredClasses()) {
+            checkInside(check, inside);
+        }
         Constructor<?>[] constructors = market.getDeclaredConstructors();
         check.same("constructors", constructors.length, 1);
         check.same("the constructor", constructors[0].toString(), "public SkeinMarket()");
         check.end();
     }
 
-    private static void checkMethods(Check check, Class<?> market) {
-        Map<String, String> due = new TreeMap<>();
-        for (String line : FACE) {
-            due.put(line.substring(line.indexOf(' ') + 1, line.indexOf('(')), line);
+    private static void checkInside(Check check, Class<?> inside) {
+        check.same("visible " + inside.getName(), inside.getModifiers() & (Modifier.PUBLIC | Modifier.PROTECTED), 0);
+        for (Method method : inside.getDeclaredMethods()) {
+            check.same("name of inner " + method.getName(), face().containsKey(method.getName()), false);
         }
+    }
+
+    private static Map<String, String> face() {
+        Map<String, String> face = new TreeMap<>();
+        for (String line : FACE) {
+            face.put(line.substring(line.indexOf(' ') + 1, line.indexOf('(')), line);
+        }
+        return face;
+    }
+
+    private static void checkMethods(Check check, Class<?> market) {
+        Map<String, String> due = face();
         List<String> names = new ArrayList<>();
         for (Method method : market.getDeclaredMethods()) {
             if (Modifier.isPrivate(method.getModifiers())) {

@@ -45,6 +45,7 @@ public final class PromiseTest {
         promise30CostOf();
         promises31And32Surplus();
         promise31OneBidOfEachBidder();
+        promises31To37EachOnItsOwn();
         promise33SurplusWithout();
         promises34And35WouldWin();
         promises34And35Ties();
@@ -655,6 +656,32 @@ public final class PromiseTest {
         bothSurpluses("one bid of a bidder", market, 40);
         bid(market, 1, 15, "1a");
         bothSurpluses("the lesser bid with another's", market, 45);
+    }
+
+    /** Every question finds its answer itself, not in what an earlier one left behind. */
+    private static void promises31To37EachOnItsOwn() {
+        SkeinMarket market = small();
+        same("32 first of all", market.surplusBySets(), 90);
+        market.raise(0, 110);
+        same("31 after a raise", market.surplus(), 100);
+        market.raise(0, 120);
+        same("32 after a raise", market.surplusBySets(), 110);
+        market.raise(0, 130);
+        same("33 after a raise", market.surplusWithout(7), 120);
+        market.raise(1, 131);
+        same("35 after a raise", market.wouldWinBySets(1), true);
+        market.raise(0, 132);
+        same("34 after a raise", market.wouldWin(0), true);
+        market.raise(1, 133);
+        same("36 after a raise", market.lotFor(1, 0), 0);
+        market.raise(0, 134);
+        same("37 after a raise", market.payment(0), 133);
+        market.offer(0, 'b', 3);
+        same("30 after an offer", market.costOf(1), 3);
+        same("35 after a cost", market.wouldWinBySets(1), true);
+        same("31 after an offer", market.surplus(), 254);
+        same("33 after a surplus", market.surplusWithout(0), 130);
+        same("32 after a surplus without", market.surplusBySets(), 254);
     }
 
     private static void promise33SurplusWithout() {

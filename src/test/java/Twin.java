@@ -59,7 +59,7 @@ final class Twin {
         try {
             return on.getClass().getMethod(method, named(method).getParameterTypes()).invoke(on, values);
         } catch (InvocationTargetException thrown) {
-            return "throws." + thrown.getCause().getClass().getName();
+            return Check.told(thrown.getCause());
         } catch (ReflectiveOperationException broken) {
             throw new IllegalStateException(broken);
         }
