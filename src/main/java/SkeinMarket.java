@@ -119,7 +119,8 @@ public final class SkeinMarket {
         return known.wishes.size();
     }
 
-    public int raise(int bid, int price) throws NoSuchElementException, IllegalStateException, IllegalArgumentException {
+    public int raise(int bid, int price)
+            throws NoSuchElementException, IllegalStateException, IllegalArgumentException {
         Bid known = knownOpenBid(bid);
         int before = known.price;
         if (price <= before || price > MAX_PRICE) {
@@ -253,7 +254,8 @@ public final class SkeinMarket {
         return known.winner;
     }
 
-    public int lotOf(int bid, int item) throws NoSuchElementException, IndexOutOfBoundsException, IllegalStateException {
+    public int lotOf(int bid, int item)
+            throws NoSuchElementException, IndexOutOfBoundsException, IllegalStateException {
         Bid known = knownBid(bid);
         Item wish = knownItem(known, item);
         if (known.state != WON) {
