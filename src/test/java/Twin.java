@@ -3,12 +3,15 @@ import java.lang.reflect.Method;
 import java.lang.reflect.Modifier;
 import java.util.Arrays;
 import java.util.Comparator;
+import java.util.HashMap;
+import java.util.Map;
 
 /** A market and its model, which get the same calls and must answer the same. */
 final class Twin {
     /** What the document promises for one object. */
     static final int CALLS = 512;
     static final Method[] METHODS = sortedMethods();
+    private static final Map<Class<?>, Map<String, Method>> KNOWN = new HashMap<>();
 
     final Model model = new Model();
     private final SkeinMarket market = new SkeinMarket();
@@ -31,7 +34,18 @@ final class Twin {
     }
 
     static Method named(String name) {
-        return Arrays.stream(METHODS).filter(method -> method.getName().equals(name)).findFirst().orElseThrow();
+        return of(SkeinMarket.class, name);
+    }
+
+    /** Tests make millions of calls, so a method is looked for only once. */
+    private static Method of(Class<?> owner, String name) {
+        Map<String, Method> known = KNOWN.computeIfAbsent(owner, key -> new HashMap<>());
+        return known.computeIfAbsent(name, key -> find(owner, name));
+    }
+
+    private static Method find(Class<?> owner, String name) {
+        return Arrays.stream(owner.getDeclaredMethods()).filter(method -> Modifier.isPublic(method.getModifiers()))
+                .filter(method -> method.getName().equals(name)).findFirst().orElseThrow();
     }
 
     /** Calls both, unless the calls are used up or an earlier answer was wrong; answers what the model says. */
@@ -55,12 +69,12 @@ final class Twin {
         return calls < CALLS && sound;
     }
 
-    private static Object outcome(Object on, String method, Object[] values) {
+    static Object outcome(Object on, String method, Object[] values) {
         try {
-            return on.getClass().getMethod(method, named(method).getParameterTypes()).invoke(on, values);
+            return of(on.getClass(), method).invoke(on, values);
         } catch (InvocationTargetException thrown) {
             return Check.told(thrown.getCause());
-        } catch (ReflectiveOperationException broken) {
+        } catch (IllegalAccessException broken) {
             throw new IllegalStateException(broken);
         }
     }
