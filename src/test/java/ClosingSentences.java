@@ -127,6 +127,7 @@ final class ClosingSentences extends Sentences {
         sold.after("2 x offer 0 a 1; bid 0 3 0a 0a; bid 1 9 0a").answers("close", 1);
         sold.after("2 x offer 0 a 1; bid 0 9 0a; bid 1 4 0a 0a; bid 2 9 0a").answers("close", 2);
         sold.after(EIGHT_WINNERS).answers("close", 8);
+        sold.after(EIGHT_THREES).answers("close", 6);
         sold.after(EIGHT_LOTS + "; bid 0 9 0a 0a 0a; bid 1 9 0a 0a 0a; bid 2 8 0a 0a 0a").answers("close", 6);
         sold.after(soldRounds(4) + EIGHT_WINNERS).answers("close", 8);
         Claim none = refusal(10, STATE, "no bid is open");

@@ -62,6 +62,7 @@ final class OrderSentences extends Sentences {
         claim.after(EIGHT_WINNERS).refuses(STATE, "offer 1 a 1").refuses(STATE, "bid 1 9999");
         claim.after(EIGHT_WINNERS + "; 6 x allow 3 0 0; ask 0 0 a; ask 0 0 a").refuses(STATE, "allow 1 0 0")
                 .refuses(STATE, "ask 0 0 a");
+        claim.after(EIGHT_THREES).refuses(STATE, "ask 0 0 a").refuses(STATE, "ask 7 0 a").refuses(STATE, "bid 0 0");
         claim.after(withdrawnLots(40)).refuses(STATE, "offer 1 a 1");
         claim.after(cancelledBids(40)).refuses(STATE, "bid 1 1");
         claim.after(soldRounds(5)).refuses(STATE, "offer 1 a 1").refuses(STATE, "bid 1 1").refuses(STATE, "close");

@@ -31,6 +31,11 @@ abstract class Sentences {
     static final String EIGHT_WINNERS = "2 x offer 0 a 0; 2 x offer 1 a 0; 2 x offer 2 a 0; 2 x offer 3 a 0; "
             + "bid 0 5 0a; bid 1 5 0a; bid 2 5 1a; bid 3 5 1a; bid 4 5 2a; bid 5 5 2a; bid 6 5 3a; bid 7 5 3a";
 
+    /** Eight lots and eight bids with three items each are open; any two bids go together, 6 and 7 would win. */
+    static final String EIGHT_THREES = "2 x offer 0 a 1; 2 x offer 1 a 1; 2 x offer 2 a 1; 2 x offer 3 a 1; "
+            + "bid 0 10 0a 1a 2a; bid 1 11 1a 2a 3a; bid 2 12 2a 3a 0a; bid 3 13 3a 0a 1a; bid 4 14 0a 1a 2a; "
+            + "bid 5 15 1a 2a 3a; bid 6 16 2a 3a 0a; bid 7 17 3a 0a 1a";
+
     static final String[] OFF_FIBRES = {"-1", "4", "256", "-2147483648", "2147483647"};
     static final String[] OFF_GRADES = {"#96", "f", "A", "#0", "#255", "#353", "#65535"};
     static final String[] OFF_RESERVES = {"-1", "1000", "-2147483648", "2147483647"};

@@ -61,6 +61,8 @@ final class SetSentences extends Sentences {
                 + " of bids.");
         surplusIs(twoWays, EIGHT_WINNERS, 40);
         surplusIs(twoWays, EIGHT_WINNERS + "; withdraw 0", 35);
+        surplusIs(twoWays, EIGHT_THREES, 27);
+        wins(twoWays, EIGHT_THREES, 6, 7);
         surplusIs(twoWays, "4 x offer 0 b 7; 4 x offer 1 d 9; allow 1 0 1; bid 0 90 0c 1d 1e; bid 1 80 0c 0b 0b; "
                 + "bid 2 70 1d 1d; bid 3 31 1d; bid 4 30 0e; bid 5 45 0b 1e; bid 5 46 0b 1d; bid 7 200 0a", 176);
         Claim once = term("Terms", "No lot is sold twice.");
@@ -212,6 +214,8 @@ final class SetSentences extends Sentences {
         gives(claim, past, 0, 0, 1, 2);
         gives(claim, past, 1, 3, 4);
         gives(claim, past, 2, 5, 6, 7);
+        gives(claim, EIGHT_THREES, 6, 4, 6, 0);
+        gives(claim, EIGHT_THREES, 7, 7, 1, 2);
         gives(claim, MIXED, 8, 3, 2);
     }
 
@@ -261,6 +265,8 @@ final class SetSentences extends Sentences {
             claim.after(EIGHT_WINNERS).answers(method, 40);
             claim.after(EIGHT_WINNERS + "; close").answers(method, 0);
             claim.after(EIGHT_WINNERS + "; cancel 0; cancel 7").answers(method, 30);
+            claim.after(EIGHT_THREES).answers(method, 27);
+            claim.after(EIGHT_THREES + "; raise 0 9999").answers(method, 10010);
             claim.after(MIXED).answers(method, 165);
             claim.after(MIXED + "; cancel 8").answers(method, 6);
         }
@@ -271,6 +277,7 @@ final class SetSentences extends Sentences {
                 + " branch and bound.", "Returns the surplus.");
         claim.afterNothing().answers("surplusWithout 0", 0).answers("surplusWithout 7", 0);
         claim.after(EIGHT_WINNERS).answers("surplusWithout 0", 35).answers("surplusWithout 7", 35);
+        claim.after(EIGHT_THREES).answers("surplusWithout 0", 27).answers("surplusWithout 7", 25);
         claim.after("offer 0 a 0; 8 x bid 3 5; ask 0 0 a; ask 7 0 a").answers("surplusWithout 3", 0)
                 .answers("surplusWithout 2", 5).answers("surplusWithout 4", 5);
         claim.after("offer 0 a 10; bid 0 100 0a; bid 1 70 0a; bid 0 95 0a").answers("surplusWithout 0", 60)

@@ -46,6 +46,8 @@ final class WinSentences extends Sentences {
         for (int bid = 0; bid < 8; bid++) {
             pays(claim, EIGHT_WINNERS, bid, 0);
         }
+        pays(claim, EIGHT_THREES, 6, 15);
+        pays(claim, EIGHT_THREES, 7, 15);
         for (int bid = 0; bid < 3; bid++) {
             pays(claim, "3 x offer 0 a 1; bid 0 7 0a; bid 1 7 0a; bid 2 7 0a; bid 3 6 0a", bid, 6);
         }
